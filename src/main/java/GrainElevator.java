@@ -576,8 +576,9 @@ public final class GrainElevator {
       return grades[slotAt(index)];
     }
 
+    // Drying can leave a layer without bushels, and such a layer is gone.
     void add(int someBushels, int moisture, int foreign, int grade) {
-      if (count >= MOST_LAYERS) {
+      if (someBushels < 1 || count >= MOST_LAYERS) {
         return;
       }
       int slot = slotFromOldest(count);
@@ -644,16 +645,10 @@ public final class GrainElevator {
         int slot = slotFromOldest(steps);
         if (moistures[slot] > wanted) {
           int kept = shrunk(bushels[slot], moistures[slot], wanted);
-          addIfAny(kept, wanted, foreigns[slot], rules.gradeNow(wanted, foreigns[slot]));
+          add(kept, wanted, foreigns[slot], rules.gradeNow(wanted, foreigns[slot]));
         } else {
-          addIfAny(bushels[slot], moistures[slot], foreigns[slot], grades[slot]);
+          add(bushels[slot], moistures[slot], foreigns[slot], grades[slot]);
         }
-      }
-    }
-
-    void addIfAny(int someBushels, int moisture, int foreign, int grade) {
-      if (someBushels > 0) {
-        add(someBushels, moisture, foreign, grade);
       }
     }
 

@@ -1,4 +1,7 @@
-/** What the project's tests share: they count what is not as due, and end with exit code 1 if anything was. */
+/**
+ * What the project's tests share: they count what is not as due, and end with exit code 1 if anything was. They look
+ * at one object oftener than the 512 calls that the document promises, as the program counts no calls.
+ */
 final class Checks {
   interface Call {
     Object answer();
@@ -29,8 +32,16 @@ final class Checks {
     try {
       return String.valueOf(call.answer());
     } catch (RuntimeException e) {
-      return "throws." + e.getClass().getSimpleName();
+      return thrown(e);
     }
+  }
+
+  /** The machine and its library must throw nothing: an exception counts only if the class itself threw it. */
+  static String thrown(Throwable e) {
+    StackTraceElement[] trace = e.getStackTrace();
+    boolean isOwn = trace.length > 0 && trace[0].getClassName().equals("GrainElevator");
+    boolean isOfMachine = e instanceof ArithmeticException && "/ by zero".equals(e.getMessage());
+    return (isOwn && !isOfMachine ? "throws." : "throws, but not by the class itself: ") + e.getClass().getSimpleName();
   }
 
   /** All that the object tells without being changed by it. */
