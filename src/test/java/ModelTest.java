@@ -166,6 +166,7 @@ public final class ModelTest {
   private void compare(String what, String name, Object... arguments) throws Exception {
     Method call = named(name);
     String due = outcome(model, call, arguments);
-    Checks.same(what + ", then " + name + Arrays.toString(arguments), outcome(program.seen(), of(call), arguments), due);
+    String got = outcome(program.seen(), of(call), arguments);
+    Checks.same(what + ", then " + name + Arrays.toString(arguments), got, due);
   }
 }
